@@ -47,9 +47,17 @@ final class Check {
         try {
             call.run();
         } catch (RuntimeException e) {
-            return e.getClass().getSimpleName();
+            return nameOf(e);
         }
         return "nothing";
+    }
+
+    /** An exception's name; another answer if the machine or the library threw it, not the class itself. */
+    static String nameOf(RuntimeException e) {
+        StackTraceElement[] trace = e.getStackTrace();
+        boolean own = trace.length > 0 && trace[0].getClassName().equals("ReceivablesBook")
+                && trace[0].getMethodName().startsWith("require");
+        return e.getClass().getSimpleName() + (own ? "" : " thrown by the machine");
     }
 
     /** All that the face tells of a book, as one text. */

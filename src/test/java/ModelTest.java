@@ -1,6 +1,7 @@
 import java.math.BigInteger;
 import java.time.LocalDate;
 import java.util.ArrayList;
+import java.util.Arrays;
 import java.util.Comparator;
 import java.util.List;
 
@@ -44,7 +45,7 @@ public final class ModelTest {
             String state = model.picture();
             String seen = Check.picture(book);
             boolean same = want.equals(got) && state.equals(seen);
-            String told = same ? "" : "run " + run + ", call " + i + " " + java.util.Arrays.toString(call)
+            String told = same ? "" : "run " + run + ", call " + i + " " + Arrays.toString(call)
                     + " answered " + got + ", due is " + want + "\n" + seen + "\ndue is\n" + state;
             Check.isTrue(told, same);
             if (!same) {
@@ -224,7 +225,7 @@ public final class ModelTest {
                 default: return "" + b.lineAmount(x);
             }
         } catch (RuntimeException e) {
-            return e.getClass().getSimpleName();
+            return Check.nameOf(e);
         }
     }
 
