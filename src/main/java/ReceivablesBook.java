@@ -135,7 +135,7 @@ public final class ReceivablesBook {
             throws IndexOutOfBoundsException, IllegalArgumentException, IllegalStateException {
         Payment source = paymentAt(payment);
         Invoice target = invoiceAt(invoice);
-        requireRange(amount, 1, Integer.MAX_VALUE);
+        requireCent(amount);
         requireState(target.owner == source.owner);
         requireState(amount <= source.unspent());
         requireState(amount <= target.openAmount());
@@ -254,7 +254,7 @@ public final class ReceivablesBook {
     public int dispute(int invoice, int amount)
             throws IndexOutOfBoundsException, IllegalArgumentException, IllegalStateException {
         Invoice target = invoiceAt(invoice);
-        requireRange(amount, 1, Integer.MAX_VALUE);
+        requireCent(amount);
         requireState(amount <= target.clearAmount());
         target.disputed += amount;
         return target.disputed;
@@ -263,7 +263,7 @@ public final class ReceivablesBook {
     public int disputeAll(int customer, int amount)
             throws IndexOutOfBoundsException, IllegalArgumentException, IllegalStateException {
         Customer owner = customerAt(customer);
-        requireRange(amount, 1, Integer.MAX_VALUE);
+        requireCent(amount);
         weighClearAmounts(owner);
         requireState(amount <= shares.sumOfWeights());
         shares.splitInProportion(amount);
@@ -477,6 +477,12 @@ public final class ReceivablesBook {
     private static void requireRange(int value, int least, int greatest) {
         if (value < least || value > greatest) {
             throw new IllegalArgumentException("out of range");
+        }
+    }
+
+    private static void requireCent(int amount) {
+        if (amount < 1) {
+            throw new IllegalArgumentException("no cent at all");
         }
     }
 

@@ -11,7 +11,7 @@ public final class LanguageTest {
         "->", "::", "\\bcatch\\b", "\\bfinally\\b", "\\bsynchronized\\b", "\\bassert\\b", "\\brecord\\b",
         "\\bpackage\\b", "\\bprotected\\b", "\\bequals\\b", "\\bhashCode\\b", "\\btoString\\b", "\\w+Exact\\b",
         "\\bdouble\\b", "\\bfloat\\b", "\\bSystem\\b", "\\bRandom\\b", "\\bThread\\b", "static \\{", "\" \\+",
-        "\\+ \"", "\\bNaN\\b", "\\bimport static\\b", "\\bextends\\b"
+        "\\+ \"", "\\bNaN\\b", "\\bimport static\\b", "\\bextends\\b", "_VALUE\\b"
     };
 
     public static void main(String[] args) throws IOException {
