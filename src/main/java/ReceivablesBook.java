@@ -670,24 +670,28 @@ public final class ReceivablesBook {
             Arrays.fill(parts, 0);
         }
 
+        private boolean has(int invoice) {
+            return invoice >= 0 && invoice < weights.length
+                    && invoice < parts.length && invoice < remainders.length;
+        }
+
         void setWeight(int invoice, int weight) {
-            if (invoice >= 0 && invoice < weights.length) {
+            if (has(invoice)) {
                 weights[invoice] = weight;
             }
         }
 
         int partOf(int invoice) {
-            return invoice >= 0 && invoice < parts.length ? parts[invoice] : 0;
+            return has(invoice) ? parts[invoice] : 0;
         }
 
         boolean wantsPart(int invoice) {
-            return invoice >= 0 && invoice < parts.length
-                    && weights[invoice] > 0 && parts[invoice] == 0;
+            return has(invoice) && weights[invoice] > 0 && parts[invoice] == 0;
         }
 
         /** Gives an invoice as much of the rest as its weight allows, and returns how much. */
         int fill(int invoice, int rest) {
-            if (invoice < 0 || invoice >= parts.length) {
+            if (!has(invoice)) {
                 return 0;
             }
             parts[invoice] = Math.min(weights[invoice], rest);
@@ -712,7 +716,7 @@ public final class ReceivablesBook {
                 return;
             }
             int left = amount;
-            for (int i = 0; i < weights.length; i++) {
+            for (int i = 0; i < MAX_INVOICES && has(i); i++) {
                 long product = (long) amount * weights[i];
                 parts[i] = (int) (product / sum);
                 remainders[i] = product % sum;
@@ -732,7 +736,7 @@ public final class ReceivablesBook {
                     greatest = remainders[i];
                 }
             }
-            if (best >= 0) {
+            if (has(best)) {
                 parts[best]++;
                 remainders[best] = 0;
             }
@@ -752,12 +756,18 @@ public final class ReceivablesBook {
             if (amount == 0 || count >= MAX_LINES) {
                 return;
             }
-            if (count >= amounts.length) {
+            if (!hasRoom()) {
                 doubleRoom();
             }
-            invoiceNumbers[count] = invoice;
-            amounts[count] = amount;
-            count++;
+            if (hasRoom()) {
+                invoiceNumbers[count] = invoice;
+                amounts[count] = amount;
+                count++;
+            }
+        }
+
+        private boolean hasRoom() {
+            return count >= 0 && count < invoiceNumbers.length && count < amounts.length;
         }
 
         private void doubleRoom() {
