@@ -771,8 +771,11 @@ public final class ReceivablesBook {
         }
 
         private void doubleRoom() {
-            invoiceNumbers = Arrays.copyOf(invoiceNumbers, 2 * invoiceNumbers.length);
-            amounts = Arrays.copyOf(amounts, 2 * amounts.length);
+            int room = Math.min(2 * count, MAX_LINES);
+            if (room > count) {
+                invoiceNumbers = Arrays.copyOf(invoiceNumbers, room);
+                amounts = Arrays.copyOf(amounts, room);
+            }
         }
 
         int sumOf(int invoice) {

@@ -1,11 +1,13 @@
 import java.io.IOException;
+import java.lang.reflect.Field;
+import java.lang.reflect.Modifier;
 import java.nio.file.Files;
 import java.nio.file.Path;
 import java.util.List;
 import java.util.regex.Matcher;
 import java.util.regex.Pattern;
 
-/** What of ../shared/LANGUAGE.md can be seen in the text of the class. */
+/** What of ../shared/LANGUAGE.md can be seen in the text of the class and in the classes it makes. */
 public final class LanguageTest {
     private static final String[] BANNED = {
         "->", "::", "\\bcatch\\b", "\\bfinally\\b", "\\bsynchronized\\b", "\\bassert\\b", "\\brecord\\b",
@@ -25,6 +27,7 @@ public final class LanguageTest {
         exceptions(code);
         parameters(code);
         methodLengths(text);
+        classes();
         Check.end("LanguageTest");
     }
 
@@ -57,5 +60,28 @@ public final class LanguageTest {
             length = line.isBlank() ? 0 : length + 1;
             Check.isTrue("short methods: " + line, length <= 60);
         }
+    }
+
+    private static void classes() {
+        Class<?>[] inside = ReceivablesBook.class.getDeclaredClasses();
+        Check.isTrue("at most twelve classes", inside.length < 12);
+        fields(ReceivablesBook.class);
+        for (Class<?> c : inside) {
+            Check.isTrue(c.getSimpleName() + " is private and static",
+                    Modifier.isPrivate(c.getModifiers()) && Modifier.isStatic(c.getModifiers()));
+            fields(c);
+        }
+    }
+
+    private static void fields(Class<?> c) {
+        int own = 0;
+        for (Field f : c.getDeclaredFields()) {
+            if (Modifier.isStatic(f.getModifiers())) {
+                Check.isTrue("static " + f.getName() + " is final", Modifier.isFinal(f.getModifiers()));
+            } else {
+                own++;
+            }
+        }
+        Check.isTrue(c.getSimpleName() + " has at most twenty fields", own <= 20);
     }
 }
